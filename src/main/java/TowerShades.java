@@ -36,7 +36,7 @@ public final class TowerShades {
             throw new IndexOutOfBoundsException("no such square");
         }
         saved.push(field);
-        int reason = field.refusal(square);
+        int reason = field.refusalReason(square);
         if (reason != 0) {
             field.refused++;
             return reason;
@@ -48,7 +48,7 @@ public final class TowerShades {
 
     public int rest() {
         saved.push(field);
-        int pay = field.pay(field.mover);
+        int pay = field.payNow(field.mover);
         field.endTurn();
         return pay;
     }
@@ -171,11 +171,11 @@ public final class TowerShades {
             case 4:
                 return field.isDarkBySweep(square, field.hourNow) ? 1 : 0;
             case 5:
-                return field.shaders(square, 0) + field.shaders(square, 1);
+                return field.towersShading(square, 0) + field.towersShading(square, 1);
             case 6:
-                return field.shadedSquares(square);
+                return field.squaresShadedFrom(square);
             case 7:
-                return field.darkHours(square);
+                return field.darkHourMask(square);
             default:
                 throw new IllegalArgumentException("what is not 0 to 7");
         }
@@ -195,7 +195,7 @@ public final class TowerShades {
             case 3:
                 return field.darkTowersOf(player);
             case 4:
-                return field.pay(player);
+                return field.payNow(player);
             case 5:
                 return field.rivalsShadedBy(player);
             default:
@@ -236,7 +236,7 @@ public final class TowerShades {
         if (!isSquare(square)) {
             throw new IndexOutOfBoundsException("no such square");
         }
-        return field.refusal(square);
+        return field.refusalReason(square);
     }
 
     public int ifRaised(int square) throws IndexOutOfBoundsException {
@@ -263,7 +263,7 @@ public final class TowerShades {
         if (!isSquare(from) || !isSquare(square)) {
             throw new IndexOutOfBoundsException("no such square");
         }
-        int distance = Sun.distance(Sun.side(field.hourNow), square, from);
+        int distance = Sun.distanceTowardSun(Sun.side(field.hourNow), square, from);
         if (distance == 0) {
             return NONE;
         }
@@ -339,8 +339,8 @@ public final class TowerShades {
     }
 
     /**
-     * The bits of a share, 0 or 1/36 to 1, as Double.doubleToLongBits gives them: LANGUAGE.md has no Double.
-     * Doubling and taking 1 away are exact here, so that no digit is lost.
+     * The bits of a share from 0 to 1, made by hand, as the library that LANGUAGE.md allows has no call for them.
+     * To double a share and to take 1 from one of 1 to 2 are exact, so that no digit is lost.
      */
     private static long bitsOfShare(double share) {
         if (share <= 0.0) {
@@ -387,8 +387,7 @@ public final class TowerShades {
             }
         }
 
-        /** What is added to a square's number to come one square nearer to the sun. */
-        static int step(int side) {
+        static int stepTowardSun(int side) {
             switch (side) {
                 case 0:
                     return 1;
@@ -401,8 +400,7 @@ public final class TowerShades {
             }
         }
 
-        /** How many squares lie toward the sun from a square. */
-        static int reach(int side, int square) {
+        static int squaresTowardSun(int side, int square) {
             switch (side) {
                 case 0:
                     return LINE - 1 - square % LINE;
@@ -415,10 +413,10 @@ public final class TowerShades {
             }
         }
 
-        /** How far a square lies toward the sun from another one; 0 if it does not. */
-        static int distance(int side, int square, int from) {
-            int step = step(side);
-            int reach = reach(side, square);
+        /** 0 if the square "from" does not lie toward the sun from the other one. */
+        static int distanceTowardSun(int side, int square, int from) {
+            int step = stepTowardSun(side);
+            int reach = squaresTowardSun(side, square);
             for (int distance = 1; distance <= reach; distance++) {
                 if (square + distance * step == from) {
                     return distance;
@@ -479,15 +477,15 @@ public final class TowerShades {
 
         void endTurn() {
             for (int player = 0; player < PLAYERS; player++) {
-                scores[player] += pay(player);
+                scores[player] += payNow(player);
             }
             hourNow = (hourNow + 1) % HOURS;
             mover = 1 - mover;
             turns++;
         }
 
-        /** The reason for which the player whose turn it is cannot raise a square; 0 if there is none. */
-        int refusal(int square) {
+        /** 0 if there is none. */
+        int refusalReason(int square) {
             if (owners[square] == 1 - mover) {
                 return 1;
             }
@@ -497,15 +495,15 @@ public final class TowerShades {
             return isDark(square, hourNow) ? 3 : 0;
         }
 
-        /** Raises the square, looks, and puts it back as it was. */
+        /** Raises the square and puts it back as it was: a copy of the field for each square would cost more. */
         int worthOfRaising(int square) {
-            if (refusal(square) != 0) {
+            if (refusalReason(square) != 0) {
                 return REFUSED_WORTH;
             }
             int owner = owners[square];
             int height = heights[square];
             putTower(square, mover, height + 1);
-            int worth = pay(mover) - pay(1 - mover);
+            int worth = payNow(mover) - payNow(1 - mover);
             putTower(square, owner, height);
             return worth;
         }
@@ -513,8 +511,8 @@ public final class TowerShades {
         boolean isDark(int square, int hour) {
             int side = Sun.side(hour);
             int steepness = Sun.steepness(hour);
-            int step = Sun.step(side);
-            int reach = Sun.reach(side, square);
+            int step = Sun.stepTowardSun(side);
+            int reach = Sun.squaresTowardSun(side, square);
             for (int distance = 1; distance <= reach; distance++) {
                 if (heights[square + distance * step] - distance * steepness > heights[square]) {
                     return true;
@@ -526,20 +524,19 @@ public final class TowerShades {
         boolean isDarkBySweep(int square, int hour) {
             int side = Sun.side(hour);
             int steepness = Sun.steepness(hour);
-            int step = Sun.step(side);
+            int step = Sun.stepTowardSun(side);
             int shadow = 0;
-            for (int distance = Sun.reach(side, square); distance >= 1; distance--) {
+            for (int distance = Sun.squaresTowardSun(side, square); distance >= 1; distance--) {
                 shadow = Math.max(shadow, heights[square + distance * step]) - steepness;
             }
             return shadow > heights[square];
         }
 
-        /** How many towers of a player shade a square now. */
-        int shaders(int square, int player) {
+        int towersShading(int square, int player) {
             int side = Sun.side(hourNow);
             int steepness = Sun.steepness(hourNow);
-            int step = Sun.step(side);
-            int reach = Sun.reach(side, square);
+            int step = Sun.stepTowardSun(side);
+            int reach = Sun.squaresTowardSun(side, square);
             int shaders = 0;
             for (int distance = 1; distance <= reach; distance++) {
                 int from = square + distance * step;
@@ -550,12 +547,11 @@ public final class TowerShades {
             return shaders;
         }
 
-        /** How many squares the tower of a square shades now. */
-        int shadedSquares(int square) {
+        int squaresShadedFrom(int square) {
             int side = Sun.side(hourNow);
             int steepness = Sun.steepness(hourNow);
-            int step = Sun.step(side);
-            int behind = LINE - 1 - Sun.reach(side, square);
+            int step = Sun.stepTowardSun(side);
+            int behind = LINE - 1 - Sun.squaresTowardSun(side, square);
             int shaded = 0;
             for (int distance = 1; distance <= behind; distance++) {
                 if (heights[square] - distance * steepness > heights[square - distance * step]) {
@@ -565,8 +561,7 @@ public final class TowerShades {
             return shaded;
         }
 
-        /** The hours in which a square is dark, the bit of each hour set. */
-        int darkHours(int square) {
+        int darkHourMask(int square) {
             int mask = 0;
             for (int hour = 0; hour < HOURS; hour++) {
                 if (isDark(square, hour)) {
@@ -620,8 +615,7 @@ public final class TowerShades {
             return dark;
         }
 
-        /** What a player is paid for the light on the field as it stands. */
-        int pay(int player) {
+        int payNow(int player) {
             int pay = 0;
             for (int square = 0; square < SQUARES; square++) {
                 if (owners[square] == player && !isDark(square, hourNow)) {
@@ -634,7 +628,7 @@ public final class TowerShades {
         int rivalsShadedBy(int player) {
             int shaded = 0;
             for (int square = 0; square < SQUARES; square++) {
-                if (owners[square] == 1 - player && shaders(square, player) > 0) {
+                if (owners[square] == 1 - player && towersShading(square, player) > 0) {
                     shaded++;
                 }
             }

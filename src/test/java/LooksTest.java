@@ -8,6 +8,7 @@ public final class LooksTest {
         lookingIsSweeping();
         playersAreTold();
         shadedRivalsCountOnce();
+        cornersCount();
         countsAreTold();
         wrongInputs();
         looksChangeNothing();
@@ -116,6 +117,19 @@ public final class LooksTest {
         TowerShades game = Due.game("a6+9;a5+8;a4-1;a3-1;a2+1;b6-9;b5-1;b4+1");
         Due.same("0 shades a4, a3 of 1", game.playerOf(0, 5), 2);
         Due.same("1 shades b4 of 0; a4 does not shade a2", game.playerOf(1, 5), 1);
+    }
+
+    /** Each of the first and of the last square is counted, at its own side of the sun. */
+    private static void cornersCount() {
+        TowerShades game = Due.game("a1+3;a2-9;f6-2;f5+8");
+        Due.same("heights of 0", game.playerOf(0, 2), 11);
+        Due.same("heights of 1", game.playerOf(1, 2), 11);
+        Due.same("a1 is dark", game.playerOf(0, 3), 1);
+        Due.same("1 shades a1", game.playerOf(1, 5), 1);
+        game.hour(6);
+        Due.same("f6 is dark", game.playerOf(1, 3), 1);
+        Due.same("0 shades f6", game.playerOf(0, 5), 1);
+        Due.same("1 shades none", game.playerOf(1, 5), 0);
     }
 
     private static void countsAreTold() {

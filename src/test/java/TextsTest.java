@@ -9,6 +9,8 @@ public final class TextsTest {
         loadRefuses();
         longTexts();
         snapshots();
+        goBackIsUndoable();
+        eachNumberIsRestored();
         undoes();
         atMostSixAreSaved();
         Due.finish();
@@ -152,6 +154,7 @@ public final class TextsTest {
         Due.same("b2's crowd again", game.squareOf(7, 2), 8);
         game.keep(0);
         game.tear(35);
+        Due.same("saved", game.count(9), 6);
         Due.same("keep in place of the one in the slot", game.goBack(0), 4);
         wrongSlots();
     }
@@ -169,6 +172,52 @@ public final class TextsTest {
         game.raise(0);
         game.undo();
         Due.same("undo leaves the slots", game.goBack(0), 0);
+    }
+
+    private static void goBackIsUndoable() {
+        TowerShades game = Due.game("b2+3");
+        game.keep(0);
+        game.raise(35);
+        Due.same("goBack(0)", game.goBack(0), 1);
+        Due.same("saved: load, raise, goBack", game.count(9), 3);
+        Due.same("undo of goBack", game.undo(), 2);
+        Due.same("f6", game.squareOf(35, 0), 1);
+        Due.same("undo of raise", game.undo(), 1);
+        Due.same("f6", game.squareOf(35, 0), 0);
+        Due.same("undo of load", game.undo(), 0);
+        Due.same("towers", game.count(6), 0);
+    }
+
+    /** The hour, the player, the turns and the refused ones are all different numbers. */
+    private static void eachNumberIsRestored() {
+        TowerShades game = new TowerShades();
+        game.rest();
+        game.raise(3);
+        game.rest();
+        game.raise(3);
+        game.raise(3);
+        game.raise(4);
+        game.raise(4);
+        game.hour(9);
+        game.keep(0);
+        int[] due = {9, 3, 1, 1, 5, 1, 2, 36, 2};
+        for (int round = 0; round < 2; round++) {
+            game.hour(5);
+            game.rest();
+            game.raise(4);
+            game.raise(4);
+            if (round == 0) {
+                game.undo();
+                game.undo();
+                game.undo();
+                game.undo();
+            } else {
+                game.goBack(0);
+            }
+            for (int what = 0; what < due.length; what++) {
+                Due.same("count(" + what + ") restored in the round " + round, game.count(what), due[what]);
+            }
+        }
     }
 
     private static void undoes() {

@@ -10,6 +10,7 @@ public final class WhatWouldBeTest {
         darkestIsTheEarliest();
         shares();
         digestsOfGames();
+        digestsByHour();
         firstDigests();
         nothingIsChanged();
         Due.finish();
@@ -213,6 +214,16 @@ public final class WhatWouldBeTest {
         game.hour(10);
         game.clearBuffer();
         Due.same("digest behind turns", game.digest(), toldDigest(game, true, true, ""));
+    }
+
+    /** At each hour, so that each of the needed heights is one at some hour, and the darkest hour is not 0. */
+    private static void digestsByHour() {
+        TowerShades game = Due.game("c3+9;c4+9;b1-7;f4+2");
+        Due.same("the darkest hour", game.darkestHour(), 9);
+        for (int hour = 0; hour < 12; hour++) {
+            game.hour(hour);
+            Due.same("digest at the hour " + hour, game.digest(), toldDigest(game, false, false, ""));
+        }
     }
 
     /** Each new object has the same digest, and what changes the state changes it. */
