@@ -13,7 +13,6 @@ public final class TowerShades {
     private static final int REFUSED_WORTH = -999;
     private static final int RAISED = 10;
     private static final long DIGEST_START = 3631L;
-    private static final double TWO_TO_52 = 4503599627370496.0;
 
     private final Field field;
     private final FieldText text;
@@ -352,7 +351,8 @@ public final class TowerShades {
             fraction = fraction * 2.0;
             exponent--;
         }
-        return (exponent << 52) | (long) ((fraction - 1.0) * TWO_TO_52);
+        double twoTo52 = 4503599627370496.0;
+        return (exponent << 52) | (long) ((fraction - 1.0) * twoTo52);
     }
 
     private static boolean isSquare(int square) {
